@@ -237,6 +237,7 @@ public final class CuesTest {
         fadesTakePlaceOfFades();
         cuesOfOneTime();
         laterInOrderEarlierInTime();
+        allCues();
         foldedFades();
         behindTheScript();
     }
@@ -277,6 +278,10 @@ public final class CuesTest {
         tour.move(1, 0, 10, 3);
         level("at the end of a fade", tour, 0, 10, 100);
         level("from its new level", tour, 0, 11, 84);
+        tour.move(0, 0, 4, 10);
+        level("a fade that began later", tour, 0, 9, 50);
+        level("cut short", tour, 0, 10, 60);
+        level("to another level", tour, 0, 12, 54);
     }
 
     private static void cuesOfOneTime() {
@@ -306,6 +311,24 @@ public final class CuesTest {
         level("its fade ends", tour, 0, 19, 100);
         level("the first line's cue last", tour, 0, 20, 77);
         level("it stays", tour, 0, 2000, 77);
+        tour.addCue(0, 30, 0);
+        tour.change(2, 0, 66);
+        tour.move(1, 1, 10, 0);
+        level("behind the fifteenth second", tour, 0, 15, 100);
+        level("two cues of an earlier line behind it", tour, 0, 20, 77);
+        level("the last of the three", tour, 0, 30, 66);
+    }
+
+    /** Cues of two lines, so that their times lie between one another. */
+    private static void allCues() {
+        CueTour tour = Tours.withAllCues();
+        for (int cue = 0; cue < 20; cue++) {
+            tour.change(cue, cue % 3, cue + 1);
+        }
+        level("ahead of the second line's", tour, 0, 10, 7);
+        level("the second line's is the later one", tour, 0, 13, 4);
+        level("both lines have a cue then", tour, 0, 19, 10);
+        level("the last time", tour, 1, 2000, 20);
     }
 
     private static void foldedFades() {

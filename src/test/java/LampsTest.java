@@ -19,6 +19,7 @@ public final class LampsTest {
         promise30();
         promise31();
         promise31OfHarm();
+        promise31OfAllLamps();
         DUE.end();
     }
 
@@ -53,6 +54,8 @@ public final class LampsTest {
         DUE.is("19: area and power", tour.light(3, 2, 0), 1);
         DUE.is("19: colour", tour.setChannel(6, 2, 2), 20);
         DUE.is("19: laid by its colour", tour.laidOn(3, 6), 1);
+        DUE.is("19: the last area", tour.addLamp(1, 3, 0, 60), 2);
+        DUE.is("19: light there", tour.light(1, 3, 0), 60);
         DUE.noSuch("19: stage below", Tours::small, t -> t.addLamp(-1, 0, 0, 1));
         DUE.noSuch("19: stage above", Tours::small, t -> t.addLamp(4, 0, 0, 1));
         DUE.noSuch("19: area below", Tours::small, t -> t.addLamp(0, -1, 0, 1));
@@ -75,6 +78,10 @@ public final class LampsTest {
         DUE.is("20: area there", tour.light(1, 1, 0), 40);
         DUE.is("20: not the old area", tour.light(1, 0, 0), 0);
         DUE.is("20: not the old stage", tour.light(2, 0, 0), 0);
+        tour.change(0, 3, 50);
+        tour.addLamp(2, 0, 0, 40);
+        tour.borrow(1, 3, 3);
+        DUE.is("20: for the last area, on the last stage", tour.light(3, 3, 0), 20);
         DUE.noSuch("20: lamp below", Tours::small, t -> t.borrow(-1, 2, 0));
         DUE.noSuch("20: lamp above", Tours::small, t -> t.borrow(2, 2, 0));
         DUE.noSuch("20: stage below", Tours::small, t -> t.borrow(0, -1, 0));
@@ -182,6 +189,9 @@ public final class LampsTest {
         tour.setChannel(5, 0, 0);
         tour.setChannel(9, 0, 0);
         DUE.is("27: no channel", tour.lampLevel(0, 9), 0);
+        tour.change(0, 9, 15);
+        tour.setChannel(9, 1, 2);
+        DUE.is("27: the last channel", tour.lampLevel(0, 9), 15);
         deadLamps();
         DUE.noSuch("27: lamp below", Tours::small, t -> t.lampLevel(-1, 0));
         DUE.noSuch("27: lamp above", Tours::small, t -> t.lampLevel(2, 0));
@@ -229,6 +239,9 @@ public final class LampsTest {
         tour.change(0, 4, 50);
         tour.setChannel(4, 0, 2);
         DUE.is("28: 100 just, lit", tour.light(0, 0, 0), 100);
+        tour.change(0, 4, 49);
+        DUE.is("28: one less than 100", tour.light(0, 0, 0), 99);
+        tour.change(0, 4, 50);
         tour.addLamp(0, 0, 0, 100);
         DUE.is("28: no more than 100", tour.light(0, 0, 0), 100);
         DUE.is("28: the last time", tour.light(0, 0, 2000), 100);
@@ -338,5 +351,24 @@ public final class LampsTest {
         DUE.is("31: not enough", tour.bestToBorrow(0, 0), NONE);
         tour.need(0, 0, 50);
         DUE.is("31: none is short now", tour.bestToBorrow(0, 0), NONE);
+        CueTour other = litTour(100);
+        other.need(0, 0, 1);
+        other.addLamp(1, 3, 0, 1);
+        other.addLamp(1, 3, 0, 100);
+        DUE.is("31: the lamp 0", other.bestToBorrow(0, 0), 0);
+        other.addLamp(0, 0, 0, 1);
+        other.need(0, 0, 100);
+        DUE.is("31: of the colour, the channel on both", other.bestToBorrow(0, 0), 1);
+    }
+
+    private static void promise31OfAllLamps() {
+        CueTour tour = Tours.withAllLamps();
+        tour.addCue(0, 0, 0);
+        tour.change(0, 3, 100);
+        tour.need(0, 3, 20);
+        DUE.is("31: the last lamp", tour.bestToBorrow(0, 3), 19);
+        tour.need(0, 3, 19);
+        DUE.is("31: the last but one", tour.bestToBorrow(0, 3), 18);
+        DUE.is("31: not one of its own", tour.bestToBorrow(2, 3), 19);
     }
 }

@@ -9,6 +9,7 @@ public final class PerformancesTest {
         promise32();
         wearGrowsByTheWearBefore();
         wearByEachLamp();
+        wearOfAllLamps();
         refusalsOfPerform();
         promise33();
         promise34();
@@ -89,6 +90,17 @@ public final class PerformancesTest {
         tour.perform(1);
         DUE.is("32: back at its home", tour.wear(4), 16);
         DUE.is("32: at another home", tour.wear(0), 8);
+    }
+
+    private static void wearOfAllLamps() {
+        CueTour tour = Tours.withAllLamps();
+        tour.addCue(0, 3, 0);
+        tour.change(0, 1, 5);
+        tour.perform(3);
+        for (int lamp = 0; lamp < 20; lamp++) {
+            // Of the lamps 7 and 19 alone the stage is 3 and the area 1.
+            DUE.is("32: lamp " + lamp, tour.wear(lamp), lamp == 7 || lamp == 19 ? 7 : 0);
+        }
     }
 
     private static void refusalsOfPerform() {
