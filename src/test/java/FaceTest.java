@@ -2,8 +2,6 @@ import java.lang.reflect.Constructor;
 import java.lang.reflect.Field;
 import java.lang.reflect.Method;
 import java.lang.reflect.Modifier;
-import java.nio.file.Files;
-import java.nio.file.Path;
 import java.util.Arrays;
 import java.util.Set;
 import java.util.TreeSet;
@@ -12,7 +10,6 @@ import java.util.stream.Collectors;
 /** The public face is that of the document, and nothing else can be seen of the class. */
 public final class FaceTest {
     private static final Due DUE = new Due("FaceTest");
-    private static final Path DOCUMENT = Path.of("../shared/DOC.md");
 
     private FaceTest() {
     }
@@ -25,11 +22,8 @@ public final class FaceTest {
 
     /** The methods of the document's block of code, as reflection would tell them. */
     private static Set<String> due() throws Exception {
-        String text = Files.readString(DOCUMENT);
-        String block = text.substring(text.indexOf("```java") + 7);
-        block = block.substring(0, block.indexOf("```"));
         Set<String> found = new TreeSet<>();
-        for (String line : block.split("\n")) {
+        for (String line : Document.face().split("\n")) {
             if (line.contains("(") && !line.contains("CueTour()")) {
                 found.add(parsed(line.trim()));
             }
