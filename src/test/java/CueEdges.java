@@ -168,6 +168,29 @@ final class CueEdges {
         due.is("the later one in the order is played", tour.levelAt(0, 59), 20);
         due.is("then the earlier one in the order", tour.levelAt(0, 60), 10);
         due.is("which stays", tour.levelAt(0, 61), 10);
+        goingBack();
+    }
+
+    /** Twenty cues, each later in the order and a second earlier than the one ahead of it. */
+    private void goingBack() {
+        CueTour tour = new CueTour();
+        for (int cue = 0; cue < 20; cue++) {
+            tour.addLine(1);
+            tour.addCue(cue, 60 - 2 * cue, 0);
+            tour.change(cue, 0, 5 * cue);
+        }
+        due.is("the first in the order", tour.timeOf(0), 60);
+        due.is("the last in the order", tour.timeOf(19), 41);
+        due.is("ahead of all", tour.levelAt(0, 40), 0);
+        for (int time = 41; time <= 60; time++) {
+            int level = 5 * (60 - time);
+            due.is("level at " + time, tour.levelAt(0, time), level);
+            due.is("second by second", tour.levelBySeconds(0, time), level);
+        }
+        tour.move(10, 10, 60, 0);
+        due.is("one is moved behind all", tour.levelAt(0, 70), 50);
+        due.is("the one ahead of it goes on for a second", tour.levelAt(0, 50), 55);
+        due.is("then the next", tour.levelAt(0, 51), 45);
     }
 
     private void folding() {

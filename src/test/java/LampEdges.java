@@ -157,6 +157,14 @@ final class LampEdges {
         due.is("its level then", tour.lampLevel(0, 0), 0);
         due.is("it is dead", Tours.worn(300).lampLevel(0, 0), 0);
         due.is("it is nearly dead", Tours.worn(299).lampLevel(0, 0), 100);
+        for (int channel = 0; channel < 10; channel++) {
+            CueTour one = Tours.lines(1);
+            one.addCue(0, 0, 0);
+            one.change(0, channel, 1);
+            one.addLamp(0, channel % 4, 2, 100);
+            due.is("by the channel " + channel + " alone", one.lampLevel(0, 0), 1);
+            due.is("its light", one.light(0, channel % 4, 0), 1);
+        }
     }
 
     private void addLamp() {

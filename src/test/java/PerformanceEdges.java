@@ -80,6 +80,12 @@ final class PerformanceEdges {
             tour.perform(0);
             due.is("lit from " + offset[0] + " on", tour.wear(0), offset[1]);
         }
+        CueTour shortest = Tours.withLines(1);
+        shortest.addLamp(0, 1, 0, 1);
+        shortest.addCue(0, 0, 0);
+        shortest.change(0, 9, 1);
+        shortest.perform(0);
+        due.is("the only second, by the last channel", shortest.wear(0), 1);
         CueTour ended = Tours.lit(100);
         ended.addCue(0, 9, 0);
         ended.change(1, 0, 0);
@@ -188,6 +194,7 @@ final class PerformanceEdges {
         due.promise(32, "Throws `IllegalStateException` if all lines are cut, or there are none, or there are 20 logs");
         due.notNow("there are no lines", Tours::empty, t -> t.perform(0));
         due.takes("there is one", () -> Tours.lines(1), t -> t.perform(0));
+        due.takes("there is one of 1 second", () -> Tours.withLines(1), t -> t.perform(0));
         due.notNow("it is cut", () -> cutBut(1, -1), t -> t.perform(3));
         due.notNow("all 30 are cut", () -> cutBut(30, -1), t -> t.perform(0));
         due.takes("all but the first are cut", () -> cutBut(30, 0), t -> t.perform(0));

@@ -146,12 +146,22 @@ final class Snapshot {
                 out.append("/home");
             }
         }
-        for (int stage = 0; stage < 4; stage++) {
-            for (int channel = 0; channel < 10; channel++) {
-                out.append(' ').append(tour.laidOn(stage, channel));
+        // A channel at 100 for each colour, so that each lamp gives all its power.
+        int cues = tour.cues();
+        for (int cue = 0; cue < cues; cue++) {
+            for (int channel = 0; channel < 3; channel++) {
+                tour.change(cue, channel, 100);
             }
-            for (int area = 0; area < 4; area++) {
-                out.append(' ').append(tour.light(stage, area, 2)).append('/').append(tour.light(stage, area, 41));
+        }
+        for (int area = 0; area < 4; area++) {
+            for (int channel = 0; channel < 3; channel++) {
+                tour.setChannel(channel, area, channel);
+            }
+            for (int stage = 0; stage < 4; stage++) {
+                out.append("; ").append(tour.light(stage, area, 2000));
+                for (int channel = 0; channel < 3; channel++) {
+                    out.append(' ').append(tour.laidOn(stage, channel));
+                }
             }
         }
     }

@@ -183,7 +183,7 @@ final class Tours {
 
     private static void fullOfLamps(CueTour tour) {
         for (int lamp = 0; lamp < 20; lamp++) {
-            tour.addLamp(lamp % 4, lamp / 4 % 4, lamp % 3, 1 + 5 * lamp);
+            tour.addLamp(lamp % 4, lamp / 4 % 4, lamp % 3, 1 + 2 * lamp);
         }
         tour.borrow(5, 0, 2);
         tour.borrow(10, 3, 1);
