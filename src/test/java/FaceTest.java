@@ -2,14 +2,22 @@ import java.lang.reflect.Constructor;
 import java.lang.reflect.Field;
 import java.lang.reflect.Method;
 import java.lang.reflect.Modifier;
+import java.nio.file.Files;
+import java.nio.file.Path;
 import java.util.Arrays;
 import java.util.Set;
 import java.util.TreeSet;
+import java.util.regex.Matcher;
+import java.util.regex.Pattern;
 import java.util.stream.Collectors;
 
 /** The public face is that of the document, and nothing else can be seen of the class. */
 public final class FaceTest {
     private static final Due DUE = new Due("FaceTest");
+
+    private static final Pattern HEADING =
+            Pattern.compile("Ahead of the calls (.*) the interface says: (---- .*)\\.");
+    private static final Pattern PUBLIC_CALL = Pattern.compile("    public int (\\w+)\\(");
 
     private FaceTest() {
     }
@@ -17,6 +25,7 @@ public final class FaceTest {
     public static void main(String[] args) throws Exception {
         methods();
         members();
+        headings();
         DUE.end();
     }
 
@@ -70,6 +79,8 @@ public final class FaceTest {
     private static void members() throws Exception {
         DUE.is("class", Modifier.toString(CueTour.class.getModifiers()), "public final");
         DUE.is("package", CueTour.class.getPackageName(), "");
+        DUE.is("what it extends", CueTour.class.getSuperclass(), Object.class);
+        DUE.is("what it implements", CueTour.class.getInterfaces().length, 0);
         Constructor<?>[] constructors = CueTour.class.getDeclaredConstructors();
         DUE.is("constructors", constructors.length, 1);
         DUE.is("the constructor", constructors[0].toString(), "public CueTour()");
@@ -81,6 +92,30 @@ public final class FaceTest {
         for (Class<?> inside : CueTour.class.getDeclaredClasses()) {
             DUE.is(inside + " is static", Modifier.isStatic(inside.getModifiers()), true);
             DUE.is(inside + " is public", Modifier.isPublic(inside.getModifiers()), false);
+            DUE.is(inside + " is protected", Modifier.isProtected(inside.getModifiers()), false);
         }
+    }
+
+    /** "Ahead of the calls ... the interface says": each call stands under its heading. */
+    private static void headings() throws Exception {
+        String source = Files.readString(Path.of("src/main/java/CueTour.java"));
+        int asked = 0;
+        for (String line : Document.text().split("\n")) {
+            Matcher heading = HEADING.matcher(line);
+            if (heading.matches()) {
+                DUE.is(heading.group(2), callsUnder(heading.group(2), source), heading.group(1).replace("`", ""));
+                asked++;
+            }
+        }
+        DUE.is("headings", asked, 4);
+    }
+
+    private static String callsUnder(String heading, String source) {
+        String mark = "    // " + heading + "\n";
+        DUE.is(heading + " stands there", source.contains(mark), true);
+        String behind = source.substring(source.indexOf(mark) + mark.length());
+        String section = behind.substring(0, behind.indexOf("    // ----"));
+        return PUBLIC_CALL.matcher(section).results().map(each -> each.group(1))
+                .collect(Collectors.joining(", "));
     }
 }
